@@ -152,7 +152,7 @@ public final class IntervalSplits {
             return lowBitsOfFirstKey(i);
         }
         if (level == 1 && spans.holds(i)) {
-            return lowBitsOfFirstKey(spans.startOf(i));
+            return lowBitsOfFirstKey(spans.sum(0, i));
         }
         throw new ArrayIndexOutOfBoundsException("no such level, interval or area");
     }
@@ -225,12 +225,12 @@ public final class IntervalSplits {
     }
 
     private int lengthsIn(int interval) {
-        int start = sizes.startOf(interval);
+        int start = sizes.sum(0, interval);
         return lengths.sum(start, start + sizes.intAt(interval));
     }
 
     private int lowBitsOfFirstKey(int interval) {
-        return (int) keys.at(sizes.startOf(interval));
+        return (int) keys.at(sizes.sum(0, interval));
     }
 
     /** Puts the record, with the splits that it needs; false when one of them was cut. */
@@ -251,7 +251,11 @@ public final class IntervalSplits {
                 giveOwnInterval(interval, key, length);
                 return true;
             }
-            carryOut(kind, interval);
+            if (kind == Kind.AREA) {
+                splitArea(spans.groupOf(interval));
+            } else {
+                halveInterval(interval, takeNumber());
+            }
         }
         return false;
     }
@@ -268,14 +272,6 @@ public final class IntervalSplits {
             return Kind.AREA;
         }
         return sizes.intAt(interval) <= 1 ? Kind.OWN : Kind.HALVES;
-    }
-
-    private void carryOut(Kind kind, int interval) {
-        if (kind == Kind.AREA) {
-            splitArea(spans.groupOf(interval));
-        } else {
-            halveInterval(interval, takeNumber());
-        }
     }
 
     private int takeNumber() {
@@ -300,7 +296,7 @@ public final class IntervalSplits {
     }
 
     private int keptByHalving(int interval) {
-        int start = sizes.startOf(interval);
+        int start = sizes.sum(0, interval);
         int most = sizes.intAt(interval) - 1;
         int half = lengthsIn(interval) / 2;
         int kept = 1;
@@ -313,7 +309,7 @@ public final class IntervalSplits {
     }
 
     private void giveOwnInterval(int interval, long key, int length) {
-        boolean behind = key > keys.at(sizes.startOf(interval));
+        boolean behind = key > keys.at(sizes.sum(0, interval));
         int own = behind ? interval + 1 : interval;
         insertInterval(own, spans.groupOf(interval), takeNumber(), 0);
         insertRecord(own, key, length);
@@ -416,11 +412,11 @@ public final class IntervalSplits {
         }
 
         private boolean holds(int i) {
-            return i >= 0 && i < size && size <= cells.length;
+            return i >= 0 && i < size;
         }
 
         private long at(int i) {
-            return holds(i) ? cells[i] : 0;
+            return i >= 0 && i < size && i < cells.length ? cells[i] : 0;
         }
 
         private int intAt(int i) {
@@ -428,7 +424,7 @@ public final class IntervalSplits {
         }
 
         private void raise(int i, int by) {
-            if (holds(i)) {
+            if (i >= 0 && i < size && i < cells.length) {
                 cells[i] += by;
             }
         }
@@ -443,31 +439,30 @@ public final class IntervalSplits {
         }
 
         private void deleteAt(int i) {
-            if (holds(i)) {
+            if (i >= 0 && i < size && size <= cells.length) {
                 System.arraycopy(cells, i + 1, cells, i, size - i - 1);
                 size--;
             }
         }
 
+        /**
+         * When the row says how many members each group has, sum(0, group) is where the group's
+         * members begin. Kept apart from intAt so that calls stay few deep.
+         */
         private int sum(int from, int to) {
-            int end = Math.min(to, size);
+            int end = to < size ? to : size;
             int sum = 0;
-            for (int i = Math.max(0, from); i < end; i++) {
-                sum += intAt(i);
+            for (int i = from; i < end; i++) {
+                sum += (int) at(i);
             }
             return sum;
-        }
-
-        /** Where the members of a group begin, when the row says how many each group has. */
-        private int startOf(int group) {
-            return sum(0, group);
         }
 
         /** Which group a member is in, when the row says how many each group has. */
         private int groupOf(int member) {
             int end = 0;
             for (int i = 0; i < size; i++) {
-                end += intAt(i);
+                end += (int) at(i);
                 if (member < end) {
                     return i;
                 }

@@ -87,6 +87,15 @@ public final class PromiseTest {
             x.reorganise();
             Check.due("1: load factor " + row[0] + " / " + row[1], row[2], x.interval(0, 1));
         }
+        int[] downs = {100, 101, Integer.MAX_VALUE};
+        for (int down : downs) {
+            IntervalSplits x = new IntervalSplits(1000, 2, 99, down);
+            for (int key = 0; key < 100; key++) {
+                x.put(key, 10);
+            }
+            x.reorganise();
+            Check.due("1: load factor 99 / " + down, 990, x.interval(0, 2));
+        }
     }
 
     private static void promise2Put() {
@@ -244,12 +253,24 @@ public final class PromiseTest {
         Check.layout("5: before", "1[1] | 2[2] | 3[3] | 4[4] 5[5]", x);
         x.remove(4);
         Check.layout("5: an interval goes", "1[1] | 2[2] | 3[3] | 5[5]", x);
+        Check.due("5: its area stays", 4, x.count(2));
         x.remove(2);
         Check.layout("5: an area goes", "1[1] | 3[3] | 5[5]", x);
+        Check.due("5: areas", 3, x.count(2));
         x.remove(1);
         Check.layout("5: the first area goes", "3[3] | 5[5]", x);
         x.put(0, 1);
         Check.layout("5: a number is not used again", "6[0] 3[3] | 5[5]", x);
+        IntervalSplits wide = new IntervalSplits(1, 4, 1, 1);
+        for (int key = 1; key <= 5; key++) {
+            wide.put(key, 1);
+        }
+        Check.layout("5: wide", "1[1] 2[2] | 3[3] 4[4] 5[5]", wide);
+        wide.remove(1);
+        Check.layout("5: wide, an interval goes", "2[2] | 3[3] 4[4] 5[5]", wide);
+        wide.remove(2);
+        Check.layout("5: wide, an area goes", "3[3] 4[4] 5[5]", wide);
+        Check.due("5: wide, one area", 1, wide.count(2));
         IntervalSplits y = full();
         y.put(3, 1);
         y.put(4, 1);
