@@ -2,6 +2,8 @@
 public final class ModelTest {
     private static final int RUNS = 1500;
     private static final int CALLS = 512;
+    private static final int[] EDGES = {Integer.MIN_VALUE, -1, 0, 1, 2, 3, 4, 5, 6, 19, 20, 21, 99,
+        100, 101, 599, 600, 601, 999, 1000, 1001, Integer.MAX_VALUE};
 
     private long seed;
     private String run;
@@ -16,8 +18,15 @@ public final class ModelTest {
         int width = 2 + pick(pick(3) == 0 ? 19 : 3);
         int down = 1 + pick(6);
         int up = 1 + pick(down);
+        if (pick(4) == 0) {
+            room = pick(2) == 0 ? edge() : room;
+            width = edge();
+            up = edge();
+            down = edge();
+        }
         keyRange = 10 + pick(pick(2) == 0 ? 30 : 600);
-        lengthRange = pick(2) == 0 ? room : Math.max(1, room / 4);
+        int heldRoom = Math.max(1, Math.min(1000, room));
+        lengthRange = pick(2) == 0 ? heldRoom : Math.max(1, heldRoom / 4);
         run = "run " + number + " (" + room + ", " + width + ", " + up + ", " + down + ")";
         x = new IntervalSplits(room, width, up, down);
         model = new PlainModel(room, width, up, down);
@@ -35,6 +44,10 @@ public final class ModelTest {
         return (int) ((seed >>> 33) % bound);
     }
 
+    private int edge() {
+        return EDGES[pick(EDGES.length)];
+    }
+
     private long key() {
         int kind = pick(60);
         if (kind == 0) {
@@ -48,12 +61,11 @@ public final class ModelTest {
     }
 
     private int length() {
-        return pick(40) == 0 ? pick(1100) - 50 : 1 + pick(lengthRange);
+        return pick(40) == 0 ? edge() : 1 + pick(lengthRange);
     }
 
     private int place() {
-        int kind = pick(20);
-        return kind == 0 ? -1 : kind == 1 ? Integer.MAX_VALUE : pick(model.count(1) + 1);
+        return pick(10) == 0 ? edge() : pick(model.count(1) + 1);
     }
 
     private void play() {
@@ -70,7 +82,7 @@ public final class ModelTest {
                 Check.due(at + "put(" + key + ", " + length + ")",
                     model.put(key, length), x.put(key, length));
             } else if (kind < 68) {
-                int write = pick(20) == 0 ? pick(20) - 5 : pick(5);
+                int write = pick(20) == 0 ? edge() : pick(5);
                 Check.due(at + "cut(" + write + ")", model.cut(write), x.cut(write));
             } else if (kind < 74) {
                 Check.due(at + "open()", model.open(), x.open());
@@ -83,7 +95,7 @@ public final class ModelTest {
     }
 
     private void ask(String at) {
-        int what = pick(8) - 1;
+        int what = pick(20) == 0 ? edge() : pick(8) - 1;
         int place = place();
         switch (pick(8)) {
             case 0:
@@ -102,13 +114,13 @@ public final class ModelTest {
                 Check.due(at + "split(" + what + ")", model.split(what), x.split(what));
                 break;
             case 4:
-                askIndex(at, pick(4) - 1, place);
+                askIndex(at, pick(20) == 0 ? edge() : pick(3), place);
                 break;
             case 5:
                 Check.due(at + "verify()", 0, x.verify());
                 break;
             case 6:
-                int i = pick(model.count(0) + 2) - 1;
+                int i = pick(10) == 0 ? edge() : pick(model.count(0) + 1);
                 Check.due(at + "order(" + i + ")", model.order(i), x.order(i));
                 break;
             default:
@@ -123,6 +135,7 @@ public final class ModelTest {
         try {
             got = x.index(level, i);
         } catch (ArrayIndexOutOfBoundsException e) {
+            Check.holds(at + "index throws by its own statement", Check.isThrownByIndex(e));
             got = Long.MIN_VALUE;
         }
         Check.due(at + "index(" + level + ", " + i + ")", want, got);
